@@ -203,7 +203,7 @@ public final class ReviewBench {
     public int missingUser(int change) throws IndexOutOfBoundsException, NoSuchElementException {
         Change changed = changeOf(change);
         checkHasRound(changed);
-        int missing = missingUsers(changed);
+        int missing = neededUsers(changed) & ~freshUsers(changed);
         if (missing == 0) {
             throw new NoSuchElementException("no approval is missing");
         }
@@ -430,7 +430,7 @@ public final class ReviewBench {
         if (countOpen(change) > 0) {
             return 'c';
         }
-        if (missingUsers(change) != 0) {
+        if ((neededUsers(change) & ~freshUsers(change)) != 0) {
             return 'a';
         }
         merger.merge(change.base, main, change.presentText());
@@ -482,10 +482,6 @@ public final class ReviewBench {
             return 0;
         }
         return withoutBit(alteredOwners(change.base, change.presentText()), change.author);
-    }
-
-    private int missingUsers(Change change) {
-        return neededUsers(change) & ~freshUsers(change);
     }
 
     /** The users who have approved a change and whose approvals are not stale. */

@@ -71,6 +71,12 @@ public final class FaceTest {
             Check.due("the field " + field.getName() + " is private", true,
                 () -> Modifier.isPrivate(field.getModifiers()));
         }
+        for (Class<?> inside : ReviewBench.class.getDeclaredClasses()) {
+            for (Method method : inside.getDeclaredMethods()) {
+                Check.due("a method inside has the name " + method.getName() + " of a public one", false,
+                    () -> publicNames.contains(method.getName()));
+            }
+        }
         checkClass();
         Check.end("FaceTest");
     }
