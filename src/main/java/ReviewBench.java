@@ -204,10 +204,12 @@ public final class ReviewBench {
         Change changed = changeOf(change);
         checkHasRound(changed);
         int missing = neededUsers(changed) & ~freshUsers(changed);
-        if (missing == 0) {
-            throw new NoSuchElementException("no approval is missing");
+        for (int user = 0; user < USERS; user++) {
+            if (hasBit(missing, user)) {
+                return user;
+            }
         }
-        return Integer.numberOfTrailingZeros(missing);
+        throw new NoSuchElementException("no approval is missing");
     }
 
     public int landedAt(int position) throws NoSuchElementException {
