@@ -50,6 +50,14 @@ final class Check {
         }
     }
 
+    static int right() {
+        return right;
+    }
+
+    static int wrong() {
+        return wrong;
+    }
+
     static void end(String test) {
         System.out.println(test + ": " + right + " answers as due, " + wrong + " not");
         if (wrong != 0 || right == 0) {
