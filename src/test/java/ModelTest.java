@@ -2,7 +2,10 @@ import java.util.ArrayList;
 import java.util.List;
 import java.util.TreeMap;
 
-/** Long runs of calls, each answered by ReviewBench and by the model; in some, all questions follow each call. */
+/**
+ * Long runs of calls, each answered by ReviewBench and by the model; in some, all questions follow each call. No bench
+ * is asked more often than the document promises: for the questions, the calls are made again on other benches.
+ */
 public final class ModelTest {
     private static final int RUNS = 1500;
     private static final int CALLS = 512;
@@ -29,15 +32,16 @@ public final class ModelTest {
         "land throws.UnsupportedOperationException", "land 0", "land 12", "landAll 0", "landAll 1", "landAll 2",
         "reasonAgainst l", "reasonAgainst r", "reasonAgainst d", "reasonAgainst c", "reasonAgainst a",
         "reasonAgainst m", "reasonAgainst s", "reasonAgainst throws.NoSuchElementException",
-        "missingUser throws.NoSuchElementException", "missingUser 4", "landedAt 3", "edits 0", "edits 16",
-        "editsByWays 16", "needs true", "needs false", "placeIn throws.NoSuchElementException", "placeIn 0",
+        "missingUser throws.NoSuchElementException", "missingUser 4", "landedAt 3", "edits 0", "edits 12",
+        "editsByWays 12", "needs true", "needs false", "placeIn throws.NoSuchElementException", "placeIn 0",
         "placeIn 11", "placeByComparing 0", "placeByComparing 11", "isStale true", "isStale false", "isStale throws.NoSuchElementException"};
 
     private static final TreeMap<String, Integer> met = new TreeMap<>();
 
     private long seed;
-    private final ReviewBench bench = new ReviewBench();
+    private ReviewBench bench = new ReviewBench();
     private final Model model = new Model();
+    private final List<int[]> made = new ArrayList<>();
     private final StringBuilder history = new StringBuilder();
     private final int contents;
     private final int mostEdits;
@@ -79,17 +83,19 @@ public final class ModelTest {
     }
 
     private boolean goesWell(boolean lookThrough) {
-        int calls = 0;
         int mostCalls = CALLS;
-        while (calls < mostCalls && !wrong) {
+        while (made.size() < mostCalls && !wrong) {
             if (mostCalls == CALLS && isAllLanded()) {
-                mostCalls = Math.min(CALLS, calls + 40);
+                mostCalls = Math.min(CALLS, made.size() + 40);
             }
-            List<int[]> next = calls == 0 ? firstCalls() : nextCalls();
+            List<int[]> next = made.isEmpty() ? firstCalls() : nextCalls();
             for (int[] call : next) {
-                compare(call[0], call[1], call[2], call[3]);
-                calls++;
-                if (lookThrough && !wrong) {
+                if (made.size() == CALLS || wrong) {
+                    break;
+                }
+                compare(call);
+                made.add(call);
+                if (lookThrough && made.size() <= CALLS / 2 && !wrong) {
                     compareAllQuestions();
                 }
             }
@@ -266,14 +272,15 @@ public final class ModelTest {
         calls.add(new int[] {3, change, 0, 0});
     }
 
-    private void compare(int op, int a, int b, int c) {
-        String due = Check.outcome(() -> ofModel(op, a, b, c));
-        String got = Check.outcome(() -> ofBench(op, a, b, c));
+    private void compare(int[] call) {
+        int op = call[0];
+        String due = Check.outcome(() -> ofModel(op, call[1], call[2], call[3]));
+        String got = Check.outcome(() -> ofBench(op, call[1], call[2], call[3]));
         met.merge(NAMES[op] + " " + due, 1, Integer::sum);
         boolean question = op >= 12;
         if (!question || !got.equals(due)) {
-            history.append("\n  ").append(NAMES[op]).append('(').append(a).append(", ").append(b).append(", ")
-                .append(c).append(") ").append(got);
+            history.append("\n  ").append(NAMES[op]).append('(').append(call[1]).append(", ").append(call[2])
+                .append(", ").append(call[3]).append(") ").append(got);
         }
         if (!got.equals(due)) {
             history.append(", due is ").append(due);
@@ -282,38 +289,69 @@ public final class ModelTest {
     }
 
     private void compareAllQuestions() {
-        compare(15, 0, 0, 0);
+        ReviewBench goingOn = bench;
+        int left = 0;
+        for (int[] question : allQuestions()) {
+            if (left == 0) {
+                bench = madeAgain();
+                left = CALLS - made.size();
+            }
+            compare(question);
+            left--;
+        }
+        bench = goingOn;
+    }
+
+    private ReviewBench madeAgain() {
+        ReviewBench goingOn = bench;
+        bench = new ReviewBench();
+        for (int[] call : made) {
+            Check.outcome(() -> ofBench(call[0], call[1], call[2], call[3]));
+        }
+        ReviewBench again = bench;
+        bench = goingOn;
+        return again;
+    }
+
+    private static List<int[]> allQuestions() {
+        List<int[]> questions = new ArrayList<>();
+        questions.add(new int[] {15, 0, 0, 0});
         for (int line = -1; line <= 12; line++) {
-            compare(16, line, 0, 0);
+            questions.add(new int[] {16, line, 0, 0});
         }
         for (int content = -1; content <= 100; content++) {
-            compare(22, content, 0, 0);
+            questions.add(new int[] {22, content, 0, 0});
         }
         for (int change = -1; change <= 4; change++) {
-            for (int op : new int[] {12, 13, 14, 17, 27}) {
-                compare(op, change, 0, 0);
-            }
-            for (int user = -1; user <= 5; user++) {
-                compare(23, change, user, 0);
-                compare(28, change, user, 0);
-                compare(29, change, user, 0);
-            }
-            for (int round = -1; round <= 4; round++) {
-                compare(18, change, round, 0);
-                for (int line = -1; line <= 12; line++) {
-                    compare(19, change, round, line);
-                }
-                for (int to = -1; to <= 4; to++) {
-                    compare(20, change, round, to);
-                    compare(21, change, round, to);
-                }
-            }
+            addQuestionsOf(change, questions);
         }
         for (int comment = -1; comment <= 12; comment++) {
-            compare(26, comment, 0, 0);
+            questions.add(new int[] {26, comment, 0, 0});
             for (int round = -1; round <= 4; round++) {
-                compare(24, comment, round, 0);
-                compare(25, comment, round, 0);
+                questions.add(new int[] {24, comment, round, 0});
+                questions.add(new int[] {25, comment, round, 0});
+            }
+        }
+        return questions;
+    }
+
+    private static void addQuestionsOf(int change, List<int[]> questions) {
+        for (int op : new int[] {12, 13, 14, 17, 27}) {
+            questions.add(new int[] {op, change, 0, 0});
+        }
+        for (int user = -1; user <= 5; user++) {
+            for (int op : new int[] {23, 28, 29}) {
+                questions.add(new int[] {op, change, user, 0});
+            }
+        }
+        for (int round = -1; round <= 4; round++) {
+            questions.add(new int[] {18, change, round, 0});
+            for (int line = -1; line <= 12; line++) {
+                questions.add(new int[] {19, change, round, line});
+            }
+            for (int to = -1; to <= 4; to++) {
+                questions.add(new int[] {20, change, round, to});
+                questions.add(new int[] {21, change, round, to});
             }
         }
     }
