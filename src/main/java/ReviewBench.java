@@ -733,7 +733,8 @@ public final class ReviewBench {
                     put(keptAs, i, j);
                     i++;
                     j++;
-                } else if (first.has(i) && (!second.has(j) || removesFirst(i, j))) {
+                } else if (first.has(i) && (!second.has(j)
+                        || cell(rests, place(i + 1, j)) <= cell(rests, place(i, j + 1)))) {
                     put(keptAs, i, NONE);
                     alter(first.at(i));
                     i++;
@@ -744,13 +745,11 @@ public final class ReviewBench {
             }
         }
 
-        private boolean removesFirst(int i, int j) {
-            return cell(rests, place(i + 1, j)) <= cell(rests, place(i, j + 1));
-        }
-
         private void alter(int content) {
-            put(altered, size, content);
-            size++;
+            if (size >= 0 && size < altered.length) {
+                altered[size] = content;
+                size++;
+            }
         }
     }
 

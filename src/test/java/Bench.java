@@ -49,6 +49,17 @@ final class Bench {
         return bench;
     }
 
+    /** A bench whose change 2 has this round, from a base that is not the main text any more. */
+    static ReviewBench withRoundBeside(int[] base, int[] main, int[] round) {
+        ReviewBench bench = withMain(base);
+        bench.open(0);
+        bench.open(0);
+        lay(bench, 1, main);
+        bench.land(1);
+        lay(bench, 2, round);
+        return bench;
+    }
+
     static String mainText(ReviewBench bench) {
         StringBuilder text = new StringBuilder();
         int lines = bench.mainLines();
@@ -129,9 +140,14 @@ final class Bench {
         return !isRefused(open);
     }
 
-    /** The state, and how a bench goes on: this shows drafts, priorities, authors and orders, for which no question asks. */
+    /** The state, and how a bench goes on. */
     static String goneOn(ReviewBench bench) {
-        StringBuilder told = new StringBuilder(state(bench));
+        return state(bench) + called(bench);
+    }
+
+    /** How a bench goes on: this shows drafts, priorities, authors and orders, for which no question asks. */
+    static String called(ReviewBench bench) {
+        StringBuilder told = new StringBuilder();
         told.append("\nrange ").append(Check.outcome(() -> bench.giveRange(90, 90, 3)));
         told.append("\nopen ").append(Check.outcome(() -> bench.open(3)));
         for (int next = 0; next < 4; next++) {

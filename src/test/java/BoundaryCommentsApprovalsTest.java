@@ -114,12 +114,23 @@ public final class BoundaryCommentsApprovalsTest {
 
     @Holds(at = "Promise 8", sentence = "Throws NoSuchElementException if the change has no round,"
         + " or its present round does not have this line")
-    static void commentOnALineThatOnlyTheRoundBeforeHas() {
-        Refusal.noSuchElement("the second line", () -> {
+    static void commentOnALineThatOnlyAnotherTextHas() {
+        Refusal.noSuchElement("the round before", () -> {
             ReviewBench bench = Bench.withRound(1, 2);
             Bench.lay(bench, 0, 1);
             return bench;
         }, bench -> bench.comment(0, 1));
+        Refusal.noSuchElement("the draft", () -> {
+            ReviewBench bench = Bench.withRound(1);
+            Bench.draft(bench, 0, 1, 2);
+            return bench;
+        }, bench -> bench.comment(0, 1));
+        Refusal.noSuchElement("the base", () -> {
+            ReviewBench bench = Bench.withMain(1, 2);
+            bench.open(0);
+            Bench.lay(bench, 1, 1);
+            return bench;
+        }, bench -> bench.comment(1, 1));
     }
 
     @Holds(at = "Promise 8", sentence = "Throws IllegalStateException if the change has landed, or there are 12 comments")

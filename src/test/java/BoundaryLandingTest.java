@@ -199,6 +199,23 @@ public final class BoundaryLandingTest {
         Check.due("the greatest of the others first", "1 0", () -> Bench.order(bench));
     }
 
+    @Holds(at = "Promise 13",
+        sentence = "each time the one with the greatest priority, of several the one with the lowest number.")
+    static void landAllMergesTheOneThatLands() {
+        ReviewBench bench = Bench.withMain(1);
+        for (int change = 1; change < 4; change++) {
+            bench.open(0);
+        }
+        Bench.lay(bench, 1, 1, 5);
+        Bench.lay(bench, 2, 9, 1);
+        Bench.lay(bench, 3, 1, 6);
+        bench.land(1);
+        bench.setPriority(3, 9);
+        Check.due("landAll", 1, bench::landAll);
+        Check.due("the one that is not in conflict", "9 1 5", () -> Bench.mainText(bench));
+        Check.due("the one that is", 'm', () -> bench.reasonAgainst(3));
+    }
+
     @Holds(at = "Promise 13", sentence = "Returns the number of changes that land.")
     static void landAllCountsThoseThatLandNow() {
         ReviewBench bench = withEmptyRounds(4);

@@ -16,17 +16,21 @@ public final class BoundaryMergingTest {
 
     // ---- landing
 
-    /** Change 2 with each of these reasons against it; change 3 is the one after which it may have to land. */
+    /**
+     * Change 2 with each of these reasons against it; change 3 is the one after which it may have to land. The rows
+     * that are in conflict are not those of which there are too many.
+     */
     private static ReviewBench withReasons(boolean d, boolean c, boolean a, boolean m, boolean s) {
-        ReviewBench bench = Bench.withMain(50);
+        ReviewBench bench = Bench.withMain(50, 51);
         for (int change = 1; change < 4; change++) {
             bench.open(0);
         }
-        Bench.draft(bench, 1, Bench.linesFrom(1, s ? 11 : 2));
-        Bench.lay(bench, 1, 50);
+        Bench.draft(bench, 1, 1, 50);
+        Bench.draft(bench, 1, Bench.linesFrom(2, s ? 9 : 0));
+        Bench.lay(bench, 1, 51);
         bench.land(1);
-        Bench.draft(bench, 2, m ? new int[] {20} : new int[] {});
-        Bench.lay(bench, 2, 50, 60);
+        Bench.draft(bench, 2, Bench.linesFrom(20, m ? 1 : 0));
+        Bench.lay(bench, 2, 50, 51, 60, 61, 62);
         if (d) {
             bench.landAfter(2, 3);
         }
@@ -117,12 +121,20 @@ public final class BoundaryMergingTest {
 
     @Holds(at = "Terms", sentence = "'d', a change after which it has to land has not landed;")
     static void thatOneHasNotLandedThoughNothingIsInItsWay() {
-        ReviewBench bench = Bench.withChanges(2);
-        bench.lay(0);
-        bench.lay(1);
-        bench.landAfter(0, 1);
-        reasonIs(NONE, bench, 1);
-        reasonIs('d', bench, 0);
+        for (int change = 0; change < 4; change++) {
+            for (int other = 0; other < 4; other++) {
+                if (other != change) {
+                    ReviewBench bench = Bench.withChanges(4);
+                    bench.lay(change);
+                    bench.lay(other);
+                    bench.landAfter(change, other);
+                    reasonIs(NONE, bench, other);
+                    reasonIs('d', bench, change);
+                    bench.land(other);
+                    reasonIs(NONE, bench, change);
+                }
+            }
+        }
     }
 
     @Holds(at = "Terms", sentence = "'c', one of its comments is open, gone or not;")
@@ -244,12 +256,7 @@ public final class BoundaryMergingTest {
 
     /** Merges the round into the main text, both from one base; "m" is due if there is a conflict. */
     private static void merges(int[] base, int[] main, int[] round, String due) {
-        ReviewBench bench = Bench.withMain(base);
-        bench.open(0);
-        bench.open(0);
-        Bench.lay(bench, 1, main);
-        bench.land(1);
-        Bench.lay(bench, 2, round);
+        ReviewBench bench = Bench.withRoundBeside(base, main, round);
         boolean conflict = due.equals("m");
         reasonIs(conflict ? 'm' : NONE, bench, 2);
         Check.due("landAll", conflict ? 0 : 1, bench::landAll);

@@ -72,6 +72,10 @@ public final class BoundaryTermsTest {
         askAll(asked);
         String due = Bench.goneOn(withAllSorts());
         Check.due("a bench that was asked", due, () -> Bench.goneOn(asked));
+        ReviewBench askedFirst = withAllSorts();
+        askAll(askedFirst);
+        String dueOfCalls = Bench.called(withAllSorts());
+        Check.due("the calls on a bench that was asked", dueOfCalls, () -> Bench.called(askedFirst));
     }
 
     // ---- texts
@@ -464,6 +468,20 @@ public final class BoundaryTermsTest {
         Bench.lay(bench, 1, 2, 1);
         Check.due("1 is removed and added", true, () -> bench.needs(1, 1));
         Check.due("2 is kept", false, () -> bench.needs(1, 2));
+    }
+
+    @Holds(at = "Terms", sentence = "A change touches the owners of the lines that the script"
+        + " from its base to its present round removes or adds.")
+    static void ownersOfAllOfTheMostLinesAreTouched() {
+        for (int line = 0; line < 12; line++) {
+            ReviewBench bench = Bench.withMain(Bench.linesFrom(10, 12));
+            bench.giveRange(10 + line, 10 + line, 1);
+            bench.giveRange(30 + line, 30 + line, 2);
+            bench.open(0);
+            Bench.lay(bench, 1, Bench.linesFrom(30, 12));
+            Check.due("line " + line + " is removed", true, () -> bench.needs(1, 1));
+            Check.due("line " + line + " is added", true, () -> bench.needs(1, 2));
+        }
     }
 
     @Holds(at = "Terms",

@@ -250,6 +250,34 @@ public final class BoundaryTextsTest {
         editsAre(24, new int[] {1, 1, 1, 1, 1, 1, 1, 1, 1, 1, 1, 1}, new int[] {2, 2, 2, 2, 2, 2, 2, 2, 2, 2, 2, 2});
     }
 
+    @Holds(at = "Promise 23", sentence = "Returns the same number,"
+        + " found by following the farthest ways with each number of edits.")
+    static void editsByWaysOfManyShortTexts() {
+        for (int first = 0; first < 64; first++) {
+            ReviewBench bench = Bench.withRound(shortText(first));
+            for (int next = 0; next < 3; next++) {
+                Bench.lay(bench, 0, shortText(7 * first + 23 * next + 1));
+            }
+            for (int from = 0; from < 4; from++) {
+                for (int to = 0; to < 4; to++) {
+                    int start = from;
+                    int end = to;
+                    String due = Check.outcome(() -> bench.edits(0, start, end));
+                    Check.due("editsByWays", due, () -> bench.editsByWays(0, start, end));
+                }
+            }
+        }
+    }
+
+    /** A text of four to seven lines, each of content 0 or 1. */
+    private static int[] shortText(int number) {
+        int[] contents = new int[4 + number % 4];
+        for (int line = 0; line < contents.length; line++) {
+            contents[line] = number >> line & 1;
+        }
+        return contents;
+    }
+
     @Holds(at = "Promise 22", sentence = "Returns the number of removed and added lines of the script"
         + " from a round to another one, found with a table.")
     static void editsFromTheFirstToTheLastRoundAndWithinOne() {
@@ -368,6 +396,21 @@ public final class BoundaryTextsTest {
         Check.due("with a draft", false, () -> bench.needs(1, 3));
         bench.lay(1);
         Check.due("with a round", true, () -> bench.needs(1, 3));
+    }
+
+    @Holds(at = "Promise 25", sentence = "Returns true if it does, false without a round.")
+    static void needsNoUserWithoutARound() {
+        for (int author : new int[] {0, 4}) {
+            ReviewBench bench = Bench.withMain(0, 1, 2, 3, 4);
+            bench.open(author);
+            for (int user = 0; user < 5; user++) {
+                bench.giveRange(user, user, user);
+            }
+            for (int user = 0; user < 5; user++) {
+                int asked = user;
+                Check.due("user " + asked + " without a round", false, () -> bench.needs(1, asked));
+            }
+        }
     }
 
     @Holds(at = "Promise 25", sentence = "Returns true if it does, false without a round.")

@@ -312,12 +312,7 @@ public final class LandingTest {
     }
 
     private static void merges(String what, int[] base, int[] main, int[] round, String due) {
-        ReviewBench bench = Bench.withMain(base);
-        bench.open(0);
-        bench.open(0);
-        Bench.lay(bench, 1, main);
-        bench.land(1);
-        Bench.lay(bench, 2, round);
+        ReviewBench bench = Bench.withRoundBeside(base, main, round);
         if (due.equals("m")) {
             Check.due(what, 'm', () -> bench.reasonAgainst(2));
         } else {
