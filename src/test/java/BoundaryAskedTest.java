@@ -209,6 +209,19 @@ public final class BoundaryAskedTest {
         Check.due("the one before the last", true, () -> bench.isOpen(10));
     }
 
+    @Holds(at = "Promise 28", sentence = "Returns whether a comment is open.")
+    static void isOpenWhenGoneResolvedOrLanded() {
+        ReviewBench bench = withPlaces();
+        for (int comment = 0; comment < 4; comment++) {
+            int asked = comment;
+            Check.due("open, gone or not", true, () -> bench.isOpen(asked));
+            bench.resolve(asked);
+            Check.due("resolved", false, () -> bench.isOpen(asked));
+        }
+        bench.land(0);
+        Check.due("landed", false, () -> bench.isOpen(3));
+    }
+
     @Holds(at = "Promise 28", sentence = "Throws IndexOutOfBoundsException if there is no such comment")
     static void isOpenOfNoComment() {
         for (int comment : new int[] {-1, 4, 5, 11, 12, LEAST, MOST}) {
@@ -343,6 +356,22 @@ public final class BoundaryAskedTest {
         Check.due("not stale", false, () -> bench.isStale(0, 2));
         bench.giveRange(3, 3, 2);
         Check.due("stale by a range given later", true, () -> bench.isStale(0, 2));
+    }
+
+    @Holds(at = "Promise 31", sentence = "Returns whether the approval of a user is stale.")
+    static void isStaleOfTheNamedUserAndChange() {
+        ReviewBench bench = withApprovals();
+        bench.approve(0, 3);
+        Bench.lay(bench, 1, 1, 2);
+        bench.approve(1, 4);
+        Bench.lay(bench, 0, 1);
+        Check.due("no line of user 1 is removed", false, () -> bench.isStale(0, 1));
+        Check.due("a line of user 4 is", true, () -> bench.isStale(0, 4));
+        Check.due("user 3 has no line", false, () -> bench.isStale(0, 3));
+        Check.due("the other change's approval", false, () -> bench.isStale(1, 4));
+        bench.giveRange(2, 2, 3);
+        Check.due("by the ranges as they are now", false, () -> bench.isStale(0, 4));
+        Check.due("by the ranges as they are now, user 3", true, () -> bench.isStale(0, 3));
     }
 
     @Holds(at = "Promise 31", sentence = "Throws IndexOutOfBoundsException if there is no such change or user")

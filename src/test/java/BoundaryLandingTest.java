@@ -73,6 +73,30 @@ public final class BoundaryLandingTest {
         Check.due("another line, with the one that has landed meanwhile", 4, () -> bench.land(2));
     }
 
+    @Holds(at = "Promise 12", sentence = "Lands a change.")
+    static void landBringsInTheNamedChangeAlone() {
+        ReviewBench bench = Bench.withChanges(4);
+        for (int change = 0; change < 4; change++) {
+            Bench.lay(bench, change, 10 + change);
+        }
+        bench.land(2);
+        Check.due("the main text", "12", () -> Bench.mainText(bench));
+        Check.due("the order", "2", () -> Bench.order(bench));
+        Check.due("the change", 'l', () -> bench.reasonAgainst(2));
+        for (int change : new int[] {0, 1, 3}) {
+            Check.due("the other change " + change, 'm', () -> bench.reasonAgainst(change));
+        }
+    }
+
+    @Holds(at = "Promise 12", sentence = "Lands a change.")
+    static void landBringsInThePresentRound() {
+        ReviewBench bench = Bench.withRound(1, 2);
+        Bench.lay(bench, 0, 2, 3);
+        bench.addLine(0, 4);
+        bench.land(0);
+        Check.due("neither an earlier round nor the draft", "2 3", () -> Bench.mainText(bench));
+    }
+
     @Holds(at = "Promise 12", sentence = "Throws IndexOutOfBoundsException if there is no such change")
     static void landOfNoChange() {
         for (int change : new int[] {-1, 2, 3, LEAST, MOST}) {
@@ -236,6 +260,20 @@ public final class BoundaryLandingTest {
         Check.due("the last", 'r', () -> bench.reasonAgainst(3));
     }
 
+    @Holds(at = "Promise 14", sentence = "Returns the reason against landing a change.")
+    static void reasonAgainstOneOfSeveral() {
+        ReviewBench bench = withThirteenLines();
+        bench.open(0);
+        Bench.lay(bench, 3, 7);
+        Check.due("another reason for each, l", 'l', () -> bench.reasonAgainst(1));
+        Check.due("s", 's', () -> bench.reasonAgainst(2));
+        bench.landAfter(3, 2);
+        Check.due("d", 'd', () -> bench.reasonAgainst(3));
+        bench.comment(2, 0);
+        Check.due("c", 'c', () -> bench.reasonAgainst(2));
+        Check.due("d, with a comment on the other change", 'd', () -> bench.reasonAgainst(3));
+    }
+
     @Holds(at = "Promise 14", sentence = "Throws IndexOutOfBoundsException if there is no such change")
     static void reasonAgainstNoChange() {
         for (int change : new int[] {-1, 2, 3, LEAST, MOST}) {
@@ -364,6 +402,20 @@ public final class BoundaryLandingTest {
             Check.due("landedAt " + asked, order[asked], () -> bench.landedAt(asked));
         }
         Check.noSuchElement("landedAt 4", () -> bench.landedAt(4));
+    }
+
+    @Holds(at = "Promise 16", sentence = "Returns a change that has landed.")
+    static void landedAtAfterLandAll() {
+        ReviewBench bench = withEmptyRounds(4);
+        bench.landAfter(1, 2);
+        bench.setPriority(1, 9);
+        bench.setPriority(3, 5);
+        Check.due("landAll", 4, bench::landAll);
+        int[] order = {3, 0, 2, 1};
+        for (int position = 0; position < 4; position++) {
+            int asked = position;
+            Check.due("landedAt " + asked, order[asked], () -> bench.landedAt(asked));
+        }
     }
 
     @Holds(at = "Promise 16", sentence = "Returns the number of the change.")

@@ -43,6 +43,14 @@ public final class BoundaryTextsTest {
         Check.due("when all are removed", 0, bench::mainLines);
     }
 
+    @Holds(at = "Promise 17", sentence = "Returns the number of lines of the main text.")
+    static void mainLinesOfTheMergedText() {
+        ReviewBench bench = Bench.withRoundBeside(new int[] {1, 2, 3}, new int[] {1, 2, 3, 4}, new int[] {1, 3});
+        Check.due("the main text, not the round", 4, bench::mainLines);
+        bench.land(2);
+        Check.due("the merged text, not the round", 3, bench::mainLines);
+    }
+
     // ---- promise 18
 
     @Holds(at = "Promise 18", sentence = "Returns the content.")
@@ -52,6 +60,15 @@ public final class BoundaryTextsTest {
         Check.due("line 1", 20, () -> bench.mainLine(1));
         Check.due("line 10", 29, () -> bench.mainLine(10));
         Check.due("line 11", 99, () -> bench.mainLine(11));
+    }
+
+    @Holds(at = "Promise 18", sentence = "Returns a line of the main text.")
+    static void mainLineOfTheMergedText() {
+        ReviewBench bench = Bench.withRoundBeside(new int[] {1, 2, 3}, new int[] {1, 2, 3, 4}, new int[] {1, 3});
+        Check.due("of the main text, not of the round", 2, () -> bench.mainLine(1));
+        bench.land(2);
+        Check.due("of the merged text", 3, () -> bench.mainLine(1));
+        Check.due("of the merged text, not of the round", 4, () -> bench.mainLine(2));
     }
 
     @Holds(at = "Promise 18", sentence = "Throws NoSuchElementException if there is no such line")
@@ -91,6 +108,20 @@ public final class BoundaryTextsTest {
         Check.due("when it has landed", 4, () -> bench.rounds(0));
     }
 
+    @Holds(at = "Promise 19", sentence = "Returns the number of rounds of a change.")
+    static void roundsOfEachChange() {
+        ReviewBench bench = Bench.withChanges(4);
+        for (int change = 0; change < 4; change++) {
+            for (int round = change; round < 4; round++) {
+                bench.lay(change);
+            }
+        }
+        for (int change = 0; change < 4; change++) {
+            int asked = change;
+            Check.due("rounds of change " + asked, 4 - asked, () -> bench.rounds(asked));
+        }
+    }
+
     @Holds(at = "Promise 19", sentence = "Throws IndexOutOfBoundsException if there is no such change")
     static void roundsOfNoChange() {
         for (int change : new int[] {-1, 2, 3, LEAST, MOST}) {
@@ -111,6 +142,18 @@ public final class BoundaryTextsTest {
         Check.due("an empty round", 0, () -> bench.lines(0, 1));
         Check.due("a round of two lines", 2, () -> bench.lines(0, 2));
         Check.due("the last round", 12, () -> bench.lines(0, 3));
+    }
+
+    @Holds(at = "Promise 20", sentence = "Returns the number of lines of a round.")
+    static void linesOfTheNamedChangesRound() {
+        ReviewBench bench = withFourRounds();
+        Bench.lay(bench, 1, 5, 6, 7);
+        Bench.draft(bench, 1, 8, 9);
+        Check.due("change 0, round 0", 12, () -> bench.lines(0, 0));
+        Check.due("change 1, round 0, without the draft", 3, () -> bench.lines(1, 0));
+        bench.lay(1);
+        Check.due("change 1, round 1", 2, () -> bench.lines(1, 1));
+        Check.due("change 0, round 1", 0, () -> bench.lines(0, 1));
     }
 
     @Holds(at = "Promise 20", sentence = "Throws IndexOutOfBoundsException if there is no such change")
@@ -148,6 +191,18 @@ public final class BoundaryTextsTest {
         Check.due("the least content", 0, () -> bench.lineAt(0, 2, 1));
         Check.due("the first line of the last round", 60, () -> bench.lineAt(0, 3, 0));
         Check.due("its last line", 71, () -> bench.lineAt(0, 3, 11));
+    }
+
+    @Holds(at = "Promise 21", sentence = "Returns a line of a round.")
+    static void lineAtOfTheNamedChangesRound() {
+        ReviewBench bench = withFourRounds();
+        Bench.lay(bench, 1, 5, 6, 7);
+        Bench.lay(bench, 1, 8, 9);
+        bench.addLine(1, 4);
+        Check.due("change 1, round 0", 6, () -> bench.lineAt(1, 0, 1));
+        Check.due("change 1, round 1", 9, () -> bench.lineAt(1, 1, 1));
+        Check.due("change 0, round 0", 31, () -> bench.lineAt(0, 0, 1));
+        Check.due("change 0, round 2", 0, () -> bench.lineAt(0, 2, 1));
     }
 
     @Holds(at = "Promise 21", sentence = "Throws IndexOutOfBoundsException if there is no such change")
@@ -361,6 +416,20 @@ public final class BoundaryTextsTest {
         Check.due("the greatest content, the least user", 0, () -> bench.ownerOf(99));
     }
 
+    @Holds(at = "Promise 24", sentence = "Returns the owner of a line.")
+    static void ownerOfALineInSeveralRanges() {
+        ReviewBench bench = new ReviewBench();
+        bench.giveRange(0, 99, 1);
+        bench.giveRange(10, 20, 2);
+        bench.giveRange(15, 30, 3);
+        int[] contents = {9, 10, 14, 15, 20, 21, 30, 31};
+        int[] due = {1, 2, 2, 3, 3, 3, 3, 1};
+        for (int next = 0; next < contents.length; next++) {
+            int content = contents[next];
+            Check.due("the owner of " + content, due[next], () -> bench.ownerOf(content));
+        }
+    }
+
     @Holds(at = "Promise 24", sentence = "Throws IllegalArgumentException if the content is not between 0 and 99")
     static void ownerOfNoContent() {
         for (int content : NO_CONTENTS) {
@@ -441,6 +510,22 @@ public final class BoundaryTextsTest {
         bench.approve(0, 3);
         bench.land(0);
         Check.due("when the change has landed", true, () -> bench.needs(0, 3));
+    }
+
+    @Holds(at = "Promise 25", sentence = "Returns whether a change needs the approval of a user.")
+    static void needsOfEachChange() {
+        ReviewBench bench = Bench.withMain(1, 2);
+        bench.giveRange(1, 1, 1);
+        bench.giveRange(2, 2, 2);
+        bench.open(0);
+        bench.open(1);
+        Bench.lay(bench, 1, 2);
+        Bench.lay(bench, 2);
+        Check.due("change 1 removes a line of user 1", true, () -> bench.needs(1, 1));
+        Check.due("change 1 keeps the line of user 2", false, () -> bench.needs(1, 2));
+        Check.due("change 2 is of user 1", false, () -> bench.needs(2, 1));
+        Check.due("change 2 removes a line of user 2", true, () -> bench.needs(2, 2));
+        Check.due("no line is of user 3", false, () -> bench.needs(2, 3));
     }
 
     @Holds(at = "Promise 25", sentence = "Throws IndexOutOfBoundsException if there is no such change or user")

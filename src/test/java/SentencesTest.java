@@ -8,8 +8,8 @@ import java.util.List;
 import java.util.Map;
 
 /**
- * What the tests say that they hold stands in the document, and each of its sentences that may name a boundary case is
- * held by a test. Run at the project's root.
+ * What the tests say that they hold stands in the document, and each sentence of its terms and promises is held by a
+ * test. Run at the project's root.
  */
 public final class SentencesTest {
     private static final Path DOCUMENT = Path.of("../shared/DOC.md");
@@ -86,15 +86,16 @@ public final class SentencesTest {
         }
     }
 
-    /** What each promise returns, and what it throws. */
+    /** What each promise does, what it returns, and what it throws. */
     private void checkThatThePromisesAreHeld() {
         for (int number = 1; number <= PROMISES; number++) {
             String at = "Promise " + number;
             String promise = sections.getOrDefault(at, "");
             Check.due(at + " is found", true, () -> !promise.isEmpty());
             for (String paragraph : promise.split("\n\\s*\n")) {
-                String sentence = plain(paragraph);
-                if (sentence.startsWith("Returns ") || sentence.startsWith("Throws ")) {
+                // What a promise does stands behind the head of its call.
+                String sentence = plain(paragraph.trim().replaceAll("^`[^`]*`: ", ""));
+                if (!sentence.isEmpty() && !sentence.startsWith("- ")) {
                     Check.due(at + ", a test holds: " + sentence, true, () -> isHeld(at, sentence));
                 }
             }
